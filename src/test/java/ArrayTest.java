@@ -90,6 +90,7 @@ public final class ArrayTest {
         for (int at : values) {
             Check.throwsDue("update with a value at " + at, Check.BEYOND, () -> x.update(1, 0, at, 0));
             Check.throwsDue("also when none is written", Check.BEYOND, () -> x.update(1, 0, at, 1));
+            Check.throwsDue("also with wrong flags", Check.BEYOND, () -> x.update(1, 0, at, 3));
         }
         Check.due("a value at the desk's end", x.update(1, 0, 502, 0), 0);
     }

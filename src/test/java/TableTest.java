@@ -201,6 +201,7 @@ public final class TableTest {
         for (int at : values) {
             Check.throwsDue("update with a value at " + at, Check.BEYOND, () -> x.update(1, 0, at, 0));
             Check.throwsDue("also when none is written", Check.BEYOND, () -> x.update(1, 0, at, 1));
+            Check.throwsDue("also with wrong flags", Check.BEYOND, () -> x.update(1, 0, at, 3));
         }
         Check.due("used", x.used(1), 1);
         Check.due("remove at the edge", x.remove(1, 448), 0);
