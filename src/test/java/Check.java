@@ -9,8 +9,14 @@ final class Check {
     }
 
     private static int wrong = 0;
+    private static String sentence = "";
 
     private Check() {
+    }
+
+    /** What a wrong answer from here on breaks; it is told with the answer. */
+    static void standsFor(String text) {
+        sentence = text;
     }
 
     static void due(String what, long got, long want) {
@@ -34,6 +40,9 @@ final class Check {
     static void fail(String text) {
         wrong++;
         System.out.println(text);
+        if (!sentence.isEmpty()) {
+            System.out.println("    against " + sentence);
+        }
     }
 
     static void done() {

@@ -19,7 +19,7 @@ public final class MakeTest {
         for (int at = 0; at <= 504; at += 8) {
             Check.due("desk of a new object at " + at, x.desk(at), 0);
         }
-        for (int at = 0; at < 65536; at += 8) {
+        for (int at = 0; at < 65536; at += 256) {
             Check.due("area of a new object at " + at, x.load(at, 8), 0);
         }
         noSuchMap(x, 0);

@@ -3,14 +3,19 @@ import java.util.function.LongSupplier;
 
 /** Runs of calls with ordinary, edge and wrong arguments, each answer beside that of the Model. */
 public final class ModelTest {
-    private static final int RUNS = 3000;
+    private static final int RUNS = 5000;
+    /** The document promises no more calls; one step of a run makes at most three. */
     private static final int CALLS = 512;
+    private static final int STEP = 3;
+    /** What sameState needs: the desk, as many places of the area, and two calls for each map. */
+    private static final int LOOKS = 64 + 64 + 2 * 64;
     private static final int[] WILD = {-1, -2, -8, 512, 513, 65536, 1 << 30, Integer.MAX_VALUE, Integer.MIN_VALUE};
 
     private final Random random;
     private final MapStore store = new MapStore();
     private final Model model = new Model();
     private final StringBuilder seen = new StringBuilder();
+    private int calls = 0;
 
     private ModelTest(int seed) {
         random = new Random(seed);
@@ -26,15 +31,17 @@ public final class ModelTest {
         Check.done();
     }
 
+    /** Half of the runs use all calls; the others keep some, to look at the whole state at their end. */
     private boolean run() {
-        int most = 1 + random.nextInt(CALLS);
-        for (int i = 0; i < most; i++) {
+        boolean looks = random.nextBoolean();
+        int most = looks ? random.nextInt(CALLS - LOOKS - STEP) : CALLS - STEP;
+        while (calls <= most || model.rows.isEmpty()) {
             if (!oneCall()) {
                 System.out.println(seen);
                 return false;
             }
         }
-        return sameState();
+        return !looks || sameState();
     }
 
     private boolean oneCall() {
@@ -167,6 +174,7 @@ public final class ModelTest {
     }
 
     private boolean same(String call, LongSupplier got, LongSupplier want) {
+        calls++;
         String g = outcome(got);
         String w = outcome(want);
         seen.append(call).append(" -> ").append(g).append('\n');
@@ -189,7 +197,9 @@ public final class ModelTest {
         for (int at = 0; at <= 504; at += 8) {
             same &= store.desk(at) == model.read(model.desk, at, 8);
         }
-        for (int at = 0; at < 65536; at += 8) {
+        for (int i = 0; i < 64; i++) {
+            Model.Row r = model.rows.get(random.nextInt(model.rows.size()));
+            int at = Math.min(65528, r.begin + random.nextInt(r.n * r.stride));
             same &= store.load(at, 8) == model.read(model.area, at, 8);
         }
         for (int map = 0; map < model.rows.size(); map++) {

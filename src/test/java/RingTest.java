@@ -251,7 +251,7 @@ public final class RingTest {
 
     private static void longUse() {
         MapStore x = withRing(64);
-        for (int i = 0; i < 120; i++) {
+        for (int i = 0; i < 100; i++) {
             x.lay(0, i * 0x0101010101010101L);
             int size = 1 + i * 7 % 40;
             Check.due("put " + i, x.put(1, 0, size), 0);
