@@ -1,13 +1,21 @@
+import java.io.IOException;
 import java.lang.reflect.Constructor;
 import java.lang.reflect.Field;
 import java.lang.reflect.Method;
 import java.lang.reflect.Modifier;
+import java.nio.file.Files;
+import java.nio.file.Path;
 import java.util.Arrays;
 import java.util.Set;
 import java.util.TreeSet;
+import java.util.regex.Matcher;
+import java.util.regex.Pattern;
 
 /** The public face: its constants, constructor and methods, and no other member that can be seen. */
 public final class FaceTest {
+    private static final Path DOCUMENT = Path.of("../shared/DOC.md");
+    private static final Pattern METHOD = Pattern.compile("public (\\w+ \\w+)\\(([^)]*)\\)(?: throws ([^;]*))?;");
+    private static final Pattern CONSTANTS = Pattern.compile("public static final int ([^;]*);");
     private static final String[] METHODS = {
         "int make(int,int,int,int) IllegalArgumentException,IllegalStateException",
         "int maps()",
@@ -26,10 +34,15 @@ public final class FaceTest {
         "int breaches()",
     };
 
-    public static void main(String[] args) {
+    public static void main(String[] args) throws IOException, ReflectiveOperationException {
         constants();
         methods();
         members();
+        if (Files.isReadable(DOCUMENT)) {
+            asInTheDocument(Files.readString(DOCUMENT));
+        } else {
+            System.out.println(DOCUMENT + " is not there: the face was not compared with it");
+        }
         Check.done();
     }
 
@@ -68,6 +81,31 @@ public final class FaceTest {
             text.append(text.length() == 0 ? "" : ",").append(type.getSimpleName());
         }
         return text.toString();
+    }
+
+    /** The lists above are those of the document's section. */
+    private static void asInTheDocument(String document) throws ReflectiveOperationException {
+        String section = document.split("## The public face", 2)[1].split("\n## ", 2)[0];
+        Set<String> said = new TreeSet<>();
+        Matcher method = METHOD.matcher(section);
+        while (method.find()) {
+            String types = method.group(2).replaceAll(" \\w+(,|$)", "$1").replace(", ", ",");
+            String thrown = method.group(3) == null ? "" : " " + method.group(3).replace(", ", ",");
+            said.add(method.group(1) + "(" + types + ")" + thrown);
+        }
+        if (!said.equals(new TreeSet<>(Arrays.asList(METHODS)))) {
+            Check.fail("the document's methods are " + said);
+        }
+        int seen = 0;
+        Matcher constants = CONSTANTS.matcher(section);
+        while (constants.find()) {
+            for (String constant : constants.group(1).split(", ")) {
+                String[] sides = constant.split(" = ");
+                Check.due(constant, MapStore.class.getField(sides[0]).getInt(null), Integer.parseInt(sides[1]));
+                seen++;
+            }
+        }
+        Check.due("the document's constants", seen, 7);
     }
 
     private static void members() {
