@@ -124,6 +124,9 @@ final class Twin {
 
     private boolean same(String call, LongSupplier got, LongSupplier want) {
         calls++;
+        if (calls > CALLS) {
+            Check.fail("the test itself calls more often than the document promises answers for");
+        }
         String g = outcome(got);
         String w = outcome(want);
         done = !g.startsWith("throws.") && !g.startsWith("-");
